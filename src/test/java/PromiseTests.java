@@ -38,6 +38,7 @@ public final class PromiseTests {
         counts();
         undoing();
         undoingAll();
+        undoingEach();
         typing();
         emptying();
         faultsOfForm();
@@ -219,6 +220,10 @@ public final class PromiseTests {
         due("standard(300)", y.standard(300), 0);
         due("standard(1)", y.standard(1), 0);
         due("standard(80)", y.standard(80), 1);
+        HintedStems thin = font(600);
+        thin.stem(0, 0, 1);
+        thin.stem(0, 5, 1);
+        due("standard(2), of the thinnest", thin.standard(2), 2);
         HintedStems z = font(600);
         z.stem(0, 0, 80);
         z.standard(60);
@@ -246,6 +251,8 @@ public final class PromiseTests {
         due("drop(300)", x.drop(300), 1);
         due("drop(300)", x.drop(300), IMPOSSIBLE);
         due("drop(90)", x.drop(90), 0);
+        x.standard(1);
+        due("drop(1)", x.drop(1), 0);
         due("stemOf(0, 0, 3)", x.stemOf(0, 0, 3), 80);
         due("count(10)", x.count(10), NONE);
     }
@@ -339,6 +346,12 @@ public final class PromiseTests {
         due("stemOf(1, 0, 5)", x.stemOf(1, 0, 5), 3);
         due("stemOf(1, 1, 6)", x.stemOf(1, 1, 6), 285);
         due("stemOf(1, 0, 6)", x.stemOf(1, 0, 6), NONE);
+        HintedStems thin = font(600);
+        thin.stem(0, 0, 1);
+        thin.stem(0, 5, 1);
+        thin.stem(0, 9, 2);
+        due("stemOf(0, 1, 5), of the thinnest", thin.stemOf(0, 1, 5), 2);
+        due("count(5), of the thinnest", thin.count(5), 2);
         x.stem(1, 700, 90);
         due("stemOf(0, 0, 5), with one that has the width", x.stemOf(0, 0, 5), 4);
         int[][] wrong = {{-1, 0, 0}, {2, 0, 0}, {0, -1, 0}, {0, 3, 0}, {0, 0, -1}, {0, 0, 7},
@@ -581,16 +594,16 @@ public final class PromiseTests {
         x.stem(0, 100, 200);
         x.make(10);
         x.glyph(600);
-        x.stem(1, 0, 100);
+        x.stem(1, 0, 150);
         x.make(20);
-        int[][] told = {{10, 1, 1, 2}, {20, 2, 0, 6}};
+        int[][] told = {{10, 1, 1, 2}, {20, 2, 0, 7}};
         for (int i = 0; i < 2; i++) {
             for (int what = 0; what < 4; what++) {
                 due("sheetOf(" + i + ", " + what + ")", x.sheetOf(i, what), told[i][what]);
             }
         }
         x.cut(1, 0);
-        due("sheetOf(1, 3), as it was made", x.sheetOf(1, 3), 6);
+        due("sheetOf(1, 3), as it was made", x.sheetOf(1, 3), 7);
         due("sheetOf(1, 2)", x.sheetOf(1, 2), 1);
         due("sheetOf(2, 0)", x.sheetOf(2, 0), NONE);
         due("sheetOf(2000000000, 0)", x.sheetOf(2000000000, 0), NONE);
@@ -657,6 +670,27 @@ public final class PromiseTests {
         for (int wrong : new int[] {5, 49, 0, -1, MOST, LEAST}) {
             due("even(" + wrong + ")", x.even(wrong), INVALID);
         }
+        HintedStems later = font(600, 600);
+        later.stem(0, 0, 300);
+        later.stem(0, 400, 140);
+        later.stem(1, 0, 250);
+        later.stem(1, 400, 160);
+        due("even(10), the last ones of two glyphs", later.even(10), 0);
+        later.cut(1, 1);
+        due("even(10), cut", later.even(10), 1);
+        later.stem(0, 600, 155);
+        due("even(10), two of one glyph", later.even(10), 0);
+        HintedStems thin = font(600, 600);
+        thin.set(0, 100);
+        thin.stem(0, 0, 101);
+        thin.stem(1, 0, 1);
+        due("even(48), the thinnest second", thin.even(48), 0);
+        thin = font(600, 600);
+        thin.set(0, 100);
+        thin.stem(0, 0, 1);
+        due("even(48), the thinnest alone", thin.even(48), 1);
+        thin.stem(1, 0, 101);
+        due("even(48), the thinnest first", thin.even(48), 0);
         HintedStems own = font(600);
         own.set(0, 10);
         own.standard(150);
@@ -703,6 +737,13 @@ public final class PromiseTests {
         y.stem(0, 90, 1);
         // its pixel is 1 from 6 on, and there is a column 1 from 15 on
         due("clear(0)", y.clear(0), 15);
+        HintedStems last = font(115, 115);
+        last.stem(0, 114, 1);
+        last.stem(1, 114, 40);
+        // at 48 its pixel is 5 (5.472), and 115 units are 6 columns (5.52)
+        due("clear(0), only at the last size", last.clear(0), 48);
+        due("best(0, 0, 0), by its right edge", last.best(0, 0, 0), 2);
+        due("clear(1)", last.clear(1), NONE);
         HintedStems z = font(100);
         z.stem(0, 90, 10);
         z.hint(0, 0, 1);
@@ -886,6 +927,41 @@ public final class PromiseTests {
         due("count(0)", x.count(0), 3);
         x.undo();
         due("count(0)", x.count(0), 1);
+    }
+
+    private static void undoingEach() {
+        Checks.about("promise 21, right behind another change");
+        for (int change = 0; change < 9; change++) {
+            HintedStems x = font(600);
+            x.stem(0, 100, 90);
+            x.standard(100);
+            write(x, "g500;");
+            x.set(0, 33);
+            due("the change " + change, alter(x, change), CHANGED[change]);
+            due("undo() of " + change, x.undo(), 3);
+            due("count(20), before " + change, x.count(20), 33);
+            due("count(2), before " + change, x.count(2), 1);
+            due("count(1), before " + change, x.count(1), 1);
+            due("count(0), before " + change, x.count(0), 1);
+            due("undo() again", x.undo(), 2);
+            due("count(20), first", x.count(20), 20);
+        }
+    }
+
+    private static final int[] CHANGED = {1, 0, 0, 0, 0, 0, 1, 1, 1};
+
+    private static int alter(HintedStems x, int change) {
+        switch (change) {
+            case 0: return x.glyph(700);
+            case 1: return x.stem(0, 0, 5);
+            case 2: return x.cut(0, 0);
+            case 3: return x.hint(0, 0, 1);
+            case 4: return x.standard(9);
+            case 5: return x.drop(100);
+            case 6: return x.make(9);
+            case 7: return x.set(1, 2);
+            default: return x.play();
+        }
     }
 
     private static void typing() {
