@@ -803,6 +803,13 @@ public final class PromiseTests {
         due("mean(), 300", x.mean(), Float.floatToIntBits(300f));
         x.standard(290);
         due("mean(), of the own widths", x.mean(), Float.floatToIntBits(300f));
+        HintedStems one = font(600);
+        for (int width = 1; width <= 300; width += width < 9 ? 1 : 3) {
+            one.stem(0, 0, width);
+            due("mean(), " + width, one.mean(), Float.floatToIntBits((float) width));
+            one.cut(0, 0);
+            one.set(0, 0);
+        }
         HintedStems y = font(600, 600);
         int sum = 0;
         for (int k = 0; k < 12; k++) {
