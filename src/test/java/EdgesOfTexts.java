@@ -63,6 +63,13 @@ final class EdgesOfTexts {
             """);
     }
 
+    @Says("Empties the text.")
+    static void promise23LeavesNothingOfTheOldText() {
+        faulty("write \"m6;\"", "m6", 0, 1, "2");
+        faulty("write \"" + FULL + "\"", "m0006", 0, 1, "5");
+        possible("write \"" + FULL + "\"", "m6;", 1);
+    }
+
     // ---- promise 24: fault
 
     @Says({"`what`: 0: its position; 1: its reason; 2: its cause", "INVALID_ARGUMENT if what is out of range",
