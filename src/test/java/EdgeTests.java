@@ -17,7 +17,8 @@ import java.util.regex.Pattern;
  */
 public final class EdgeTests {
     private static final Class<?>[] GROUPS =
-            {EdgesOfChanges.class, EdgesOfPixels.class, EdgesOfLooks.class, EdgesOfTexts.class};
+            {EdgesOfChanges.class, EdgesOfPixels.class, EdgesOfLooks.class,
+        EdgesOfTexts.class, EdgesOfRefusals.class};
     private static final Pattern NAME = Pattern.compile("promise(\\d+)[A-Z]\\w*");
     private static final int LEAST_QUOTE = 8;
 

@@ -695,6 +695,7 @@ final class EdgesOfChanges {
 
     @Says("each change records everything before it but the text, and if there are 5 states then")
     static void promise21BringsBackAllThatThereWas() {
+        // three changes at most, so that no state is dropped
         String before = """
             write "g600;g900;s0,100,80;s0,300,9;h0,1,3;w85;w7;m10;m9;"
             play() = 9 | set(0, 33)
@@ -703,11 +704,11 @@ final class EdgesOfChanges {
             "hint(0, 1, 3)", "standard(9)", "drop(85)", "drop(7)", "make(48)", "make(9)", "make(10)", "set(0, 0)",
             "set(1, 3)", "set(0, 33)"};
         for (String change : changes) {
-            Script.takesBack(before, change);
-            Script.takesBack(before + "set(1, 2)", change);
+            Script.leadsBack(before, change + " | undo()");
+            Script.leadsBack(before + "set(1, 2)", change + " | undo()");
         }
-        Script.takesBack("write \"g600;s0,100,80;w85;m10;\"\nset(0, 33) | set(1, 2)", "play()");
-        Script.takesBack(before + "clearText()", "play()");
+        Script.leadsBack("write \"g600;s0,100,80;w85;m10;\"\nset(0, 33) | set(1, 2)", "play() | undo()");
+        Script.leadsBack(before + "clearText()", "play() | undo()");
     }
 
     @Says("each change records everything before it but the text")

@@ -30,18 +30,14 @@ final class Script {
         script.end();
     }
 
-    /**
-     * Holds that after a change and undo() all is as it was after the rows, which have at most three
-     * changes, so that no state is dropped.
-     */
-    static void takesBack(String rows, String change) {
+    /** Holds that some more rows lead back to what there was before them. */
+    static void leadsBack(String rows, String more) {
         Script script = new Script();
         script.rows(rows);
         int[] was = Sight.of(script.lasting);
-        script.row(change);
-        script.row("undo()");
+        script.rows(more);
         String difference = Sight.difference(was, Sight.of(script.lasting));
-        Checks.due("after " + change + " and undo(): " + difference, difference.isEmpty() ? 1 : 0, 1);
+        Checks.due("after " + more + ": " + difference, difference.isEmpty() ? 1 : 0, 1);
     }
 
     private void rows(String rows) {
